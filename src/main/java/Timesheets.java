@@ -363,12 +363,18 @@ public final class Timesheets {
 
     /** A number of a row; 0 if there is no such row. */
     int get(int row, int column) {
-      int place = placeOf(row, column);
+      if (row < 0 || row >= rows || column < 0 || column >= width) {
+        return 0;
+      }
+      int place = row * width + column;
       return place >= 0 && place < cells.length ? cells[place] : 0;
     }
 
     void set(int row, int column, int value) {
-      int place = placeOf(row, column);
+      if (row < 0 || row >= rows || column < 0 || column >= width) {
+        return;
+      }
+      int place = row * width + column;
       if (place >= 0 && place < cells.length) {
         cells[place] = value;
       }
@@ -404,13 +410,6 @@ public final class Timesheets {
 
     void clear() {
       rows = 0;
-    }
-
-    private int placeOf(int row, int column) {
-      if (row < 0 || row >= rows || column < 0 || column >= width) {
-        return -1;
-      }
-      return row * width + column;
     }
   }
 
@@ -519,8 +518,8 @@ public final class Timesheets {
 
     private void addEvent(int time, int covers, int breaks) {
       int at = events.size();
-      while (at > 0 && events.get(at - 1, TIME) > time) {
-        at--;
+      for (int i = at - 1; i >= 0 && events.get(i, TIME) > time; i--) {
+        at = i;
       }
       events.insert(at);
       events.set(at, TIME, time);

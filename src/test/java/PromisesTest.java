@@ -427,6 +427,11 @@ public final class PromisesTest {
     shift(x, 3, 10080, 10080);
     due("worked on day 0", x.workedOn(0, 0), 300);
     due("stretches", x.stretches(0), 2);
+    Timesheets w = withOne(1000);
+    w.punch(0, 100, false);
+    w.punch(0, 200, false);
+    shift(w, 0, 0, 100);
+    shift(w, 1, 100, 200);
     Timesheets y = withOne(1000);
     y.punch(0, 480, false);
     shift(y, 0, 0, 480);
@@ -563,6 +568,36 @@ public final class PromisesTest {
     raises("stretches of -1", INDEX, () -> x.stretches(-1));
     raises("longestStretch of nobody", INDEX, () -> x.longestStretch(1));
     raises("longestStretch of -1", INDEX, () -> x.longestStretch(-1));
+  }
+
+  private static void asMuchAsMayBe() {
+    promise = "23 stretches";
+    Timesheets x = withOne(1000);
+    for (int i = 0; i < 20; i++) {
+      int begin = 500 * i;
+      x.punch(0, begin, true);
+      x.punch(0, begin + 100, false);
+      x.enter(0, begin + 102, begin + 495);
+      x.enterBreak(0, begin + 50, begin + 51);
+    }
+    due("stretches", x.stretches(0), 60);
+    due("longestStretch", x.longestStretch(0), 393);
+    due("shifts", x.shifts(0), 20);
+    due("overlap", x.overlap(0), 0);
+    int worked = 0;
+    int paid = 0;
+    for (int day = 0; day < 7; day++) {
+      worked += x.workedOn(0, day);
+      for (int category = REGULAR; category <= DOUBLE; category++) {
+        paid += x.minutes(0, day, category);
+      }
+    }
+    due("worked minutes", worked, 20 * 492);
+    due("paid minutes", paid, 20 * 462);
+    due("the last paid minute", x.category(0, 9500 + 494), DOUBLE);
+    raises("a 41st punch", STATE, () -> x.punch(0, 10080, true));
+    raises("a 21st entry", STATE, () -> x.enter(0, 0, 1));
+    raises("a 21st break", STATE, () -> x.enterBreak(0, 0, 1));
   }
 
   private static void automaticBreak() {
@@ -857,6 +892,7 @@ public final class PromisesTest {
     overlap();
     workedOn();
     stretches();
+    asMuchAsMayBe();
     automaticBreak();
     categoriesOfDays();
     categoriesOfTheWeek();
