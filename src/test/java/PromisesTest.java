@@ -1,55 +1,13 @@
-import java.util.NoSuchElementException;
-import java.util.function.LongSupplier;
-
 /** Every promise of the document by hand: ordinary inputs, the edges that it names, and wrong inputs. */
-public final class PromisesTest {
-  private static final Class<?> INDEX = IndexOutOfBoundsException.class;
-  private static final Class<?> ARGUMENT = IllegalArgumentException.class;
-  private static final Class<?> STATE = IllegalStateException.class;
-  private static final Class<?> ELEMENT = NoSuchElementException.class;
-
-  private static final int REGULAR = Timesheets.REGULAR;
-  private static final int OVERTIME = Timesheets.OVERTIME;
-  private static final int DOUBLE = Timesheets.DOUBLE;
-  private static final int NONE = Timesheets.NONE;
-  private static final int[] OUTSIDE = {-1, Integer.MIN_VALUE, Integer.MAX_VALUE};
-
-  private static String promise = "";
-  private static int wrong = 0;
-
-  private static void due(String what, long got, long want) {
-    if (got != want) {
-      wrong++;
-      System.out.println(promise + ": " + what + " answered " + got + ", due is " + want);
-    }
-  }
-
-  private static void raises(String what, Class<?> want, LongSupplier call) {
-    String got;
-    try {
-      got = "answered " + call.getAsLong();
-    } catch (RuntimeException e) {
-      if (e.getClass() == want) {
-        return;
-      }
-      got = "threw " + e.getClass().getName();
-    }
-    wrong++;
-    System.out.println(promise + ": " + what + " " + got + ", due is " + want.getName());
-  }
-
-  private static Timesheets withOne(int wage) {
-    Timesheets x = new Timesheets();
-    x.hire(wage);
-    return x;
-  }
+public final class PromisesTest extends Checks {
+  private static final int[] OUTSIDE = {-1, MIN, MAX};
 
   private static int at(int day, int hour, int minute) {
     return day * 1440 + hour * 60 + minute;
   }
 
   private static void newObject() {
-    promise = "1 a new object";
+    about("1 a new object");
     Timesheets x = new Timesheets();
     due("employees", x.employees(), 0);
     raises("pay(0)", INDEX, () -> x.pay(0));
@@ -61,9 +19,9 @@ public final class PromisesTest {
   }
 
   private static void hire() {
-    promise = "2 hire";
+    about("2 hire");
     Timesheets x = new Timesheets();
-    for (int wage : new int[] {0, -1, 100001, Integer.MIN_VALUE, Integer.MAX_VALUE}) {
+    for (int wage : new int[] {0, -1, 100001, MIN, MAX}) {
       raises("hire(" + wage + ")", ARGUMENT, () -> x.hire(wage));
     }
     due("employees after wrong wages", x.employees(), 0);
@@ -88,7 +46,7 @@ public final class PromisesTest {
   }
 
   private static void setWage() {
-    promise = "3 setWage";
+    about("3 setWage");
     Timesheets x = withOne(800);
     x.enter(0, 0, 60);
     due("pay before", x.pay(0), 800);
@@ -109,7 +67,7 @@ public final class PromisesTest {
   }
 
   private static void punch() {
-    promise = "4 punch";
+    about("4 punch");
     Timesheets x = withOne(1000);
     due("punch(0, 100, true)", x.punch(0, 100, true), 1);
     due("punch(0, 10080, false)", x.punch(0, 10080, false), 2);
@@ -130,7 +88,7 @@ public final class PromisesTest {
   }
 
   private static void removePunch() {
-    promise = "5 removePunch";
+    about("5 removePunch");
     Timesheets x = withOne(1000);
     x.punch(0, 500, true);
     x.punch(0, 300, false);
@@ -150,9 +108,9 @@ public final class PromisesTest {
   }
 
   private static void enter() {
-    promise = "6 enter";
+    about("6 enter");
     Timesheets x = withOne(1000);
-    for (int from : new int[] {-1, 10080, Integer.MIN_VALUE, Integer.MAX_VALUE}) {
+    for (int from : new int[] {-1, 10080, MIN, MAX}) {
       raises("from " + from, ARGUMENT, () -> x.enter(0, from, 10080));
     }
     raises("to is from", ARGUMENT, () -> x.enter(0, 10, 10));
@@ -174,7 +132,7 @@ public final class PromisesTest {
   }
 
   private static void removeEntry() {
-    promise = "7 removeEntry";
+    about("7 removeEntry");
     Timesheets x = withOne(1000);
     raises("no entry", INDEX, () -> x.removeEntry(0, 0));
     x.enter(0, 0, 10);
@@ -199,10 +157,10 @@ public final class PromisesTest {
   }
 
   private static void enterBreak() {
-    promise = "8 enterBreak";
+    about("8 enterBreak");
     Timesheets x = withOne(1000);
     x.enter(0, 0, 10080);
-    for (int from : new int[] {-1, 10080, Integer.MIN_VALUE, Integer.MAX_VALUE}) {
+    for (int from : new int[] {-1, 10080, MIN, MAX}) {
       raises("from " + from, ARGUMENT, () -> x.enterBreak(0, from, 10080));
     }
     raises("to is from", ARGUMENT, () -> x.enterBreak(0, 10, 10));
@@ -222,7 +180,7 @@ public final class PromisesTest {
   }
 
   private static void removeBreak() {
-    promise = "9 removeBreak";
+    about("9 removeBreak");
     Timesheets x = withOne(1000);
     x.enter(0, 0, 1000);
     raises("no break", INDEX, () -> x.removeBreak(0, 0));
@@ -247,17 +205,17 @@ public final class PromisesTest {
   }
 
   private static void addPremium() {
-    promise = "10 addPremium";
+    about("10 addPremium");
     Timesheets x = withOne(8);
     x.enter(0, 0, 60);
-    for (int days : new int[] {0, -1, 128, Integer.MIN_VALUE, Integer.MAX_VALUE}) {
+    for (int days : new int[] {0, -1, 128, MIN, MAX}) {
       raises("days " + days, ARGUMENT, () -> x.addPremium(days, 0, 10, 60));
     }
-    for (int minute : new int[] {-1, 1440, Integer.MIN_VALUE, Integer.MAX_VALUE}) {
+    for (int minute : new int[] {-1, 1440, MIN, MAX}) {
       raises("from " + minute, ARGUMENT, () -> x.addPremium(1, minute, 10, 60));
       raises("to " + minute, ARGUMENT, () -> x.addPremium(1, 10, minute, 60));
     }
-    for (int rate : new int[] {0, -1, 10001, Integer.MIN_VALUE, Integer.MAX_VALUE}) {
+    for (int rate : new int[] {0, -1, 10001, MIN, MAX}) {
       raises("rate " + rate, ARGUMENT, () -> x.addPremium(1, 0, 10, rate));
     }
     due("nothing is added", x.premiumPay(0), 0);
@@ -273,7 +231,7 @@ public final class PromisesTest {
   }
 
   private static void removePremium() {
-    promise = "11 removePremium";
+    about("11 removePremium");
     Timesheets x = withOne(8);
     x.enter(0, 0, 60);
     raises("no premium", INDEX, () -> x.removePremium(0));
@@ -297,7 +255,7 @@ public final class PromisesTest {
   }
 
   private static void closeWeek() {
-    promise = "12 closeWeek";
+    about("12 closeWeek");
     Timesheets x = withOne(1200);
     x.hire(600);
     raises("an empty week", STATE, () -> x.closeWeek(0));
@@ -328,7 +286,7 @@ public final class PromisesTest {
   }
 
   private static void numbersKept() {
-    promise = "13 employees";
+    about("13 employees");
     Timesheets x = new Timesheets();
     for (int i = 0; i < 6; i++) {
       due("employees", x.employees(), i);
@@ -336,7 +294,7 @@ public final class PromisesTest {
     }
     due("employees", x.employees(), 6);
 
-    promise = "14 closedWeeks";
+    about("14 closedWeeks");
     raises("no such employee", INDEX, () -> x.closedWeeks(6));
     raises("employee -1", INDEX, () -> x.closedWeeks(-1));
     for (int i = 0; i < 5; i++) {
@@ -347,7 +305,7 @@ public final class PromisesTest {
     due("closedWeeks(3)", x.closedWeeks(3), 5);
     due("closedWeeks(2)", x.closedWeeks(2), 0);
 
-    promise = "15 earned";
+    about("15 earned");
     raises("no such employee", INDEX, () -> x.earned(6));
     raises("employee -1", INDEX, () -> x.earned(-1));
     due("earned(3)", x.earned(3), 500);
@@ -357,7 +315,7 @@ public final class PromisesTest {
   }
 
   private static void earnedPastAnInt() {
-    promise = "15 earned";
+    about("15 earned");
     Timesheets x = withOne(100000);
     x.addPremium(127, 0, 0, 10000);
     long sum = 0;
@@ -375,7 +333,7 @@ public final class PromisesTest {
   }
 
   private static void shiftsInOrder() {
-    promise = "16 to 19 shifts";
+    about("16 to 19 shifts");
     Timesheets x = withOne(1000);
     x.punch(0, 3000, false);
     x.punch(0, 2500, true);
@@ -413,7 +371,7 @@ public final class PromisesTest {
   }
 
   private static void shiftsAtTheEdges() {
-    promise = "16 to 19 shifts";
+    about("16 to 19 shifts");
     Timesheets x = withOne(1000);
     x.punch(0, 0, false);
     x.punch(0, 300, false);
@@ -451,7 +409,7 @@ public final class PromisesTest {
   }
 
   private static void fortyShifts() {
-    promise = "16 shifts";
+    about("16 shifts");
     Timesheets x = withOne(1000);
     for (int i = 0; i < 40; i++) {
       x.punch(0, 100 + i * 10, true);
@@ -471,7 +429,7 @@ public final class PromisesTest {
   }
 
   private static void coverage() {
-    promise = "20 coverage";
+    about("20 coverage");
     Timesheets x = withOne(1000);
     x.punch(0, 100, true);
     x.punch(0, 200, false);
@@ -488,7 +446,7 @@ public final class PromisesTest {
     due("coverage 250", x.coverage(0, 250), 0);
     due("coverage 0", x.coverage(0, 0), 0);
     due("coverage 10079", x.coverage(0, 10079), 0);
-    for (int minute : new int[] {-1, 10080, Integer.MIN_VALUE, Integer.MAX_VALUE}) {
+    for (int minute : new int[] {-1, 10080, MIN, MAX}) {
       raises("minute " + minute, ARGUMENT, () -> x.coverage(0, minute));
       raises("no such employee, minute " + minute, INDEX, () -> x.coverage(1, minute));
     }
@@ -496,7 +454,7 @@ public final class PromisesTest {
   }
 
   private static void overlap() {
-    promise = "21 overlap";
+    about("21 overlap");
     Timesheets x = withOne(1000);
     due("nothing", x.overlap(0), 0);
     x.enter(0, 100, 200);
@@ -519,7 +477,7 @@ public final class PromisesTest {
   }
 
   private static void workedOn() {
-    promise = "22 workedOn";
+    about("22 workedOn");
     Timesheets x = withOne(1000);
     x.enter(0, at(0, 20, 0), at(1, 6, 0));
     x.enter(0, at(0, 22, 0), at(0, 23, 0));
@@ -531,7 +489,7 @@ public final class PromisesTest {
     due("day 1 less the break", x.workedOn(0, 1), 345);
     x.enter(0, 0, 10080);
     due("the last day, the automatic break counts", x.workedOn(0, 6), 1440);
-    for (int day : new int[] {-1, 7, Integer.MIN_VALUE, Integer.MAX_VALUE}) {
+    for (int day : new int[] {-1, 7, MIN, MAX}) {
       raises("day " + day, ARGUMENT, () -> x.workedOn(0, day));
       raises("no such employee, day " + day, INDEX, () -> x.workedOn(1, day));
     }
@@ -539,7 +497,7 @@ public final class PromisesTest {
   }
 
   private static void stretches() {
-    promise = "23 and 24 stretches";
+    about("23 and 24 stretches");
     Timesheets x = withOne(1000);
     due("none", x.stretches(0), 0);
     due("longest of none", x.longestStretch(0), 0);
@@ -571,7 +529,7 @@ public final class PromisesTest {
   }
 
   private static void asMuchAsMayBe() {
-    promise = "23 stretches";
+    about("23 stretches");
     Timesheets x = withOne(1000);
     for (int i = 0; i < 20; i++) {
       int begin = 500 * i;
@@ -601,7 +559,7 @@ public final class PromisesTest {
   }
 
   private static void automaticBreak() {
-    promise = "25 category";
+    about("25 category");
     for (int length : new int[] {359, 360, 361, 370, 389, 390, 391}) {
       Timesheets x = withOne(1000);
       x.enter(0, 100, 100 + length);
@@ -621,7 +579,7 @@ public final class PromisesTest {
   }
 
   private static void categoriesOfDays() {
-    promise = "25 category";
+    about("25 category");
     Timesheets x = withOne(1000);
     x.enter(0, 0, 240);
     x.enter(0, 300, 540);
@@ -636,7 +594,7 @@ public final class PromisesTest {
     x.enter(0, 1430, 1450);
     due("the last of the day", x.category(0, 1439), DOUBLE);
     due("the first of the next day", x.category(0, 1440), REGULAR);
-    for (int minute : new int[] {-1, 10080, Integer.MIN_VALUE, Integer.MAX_VALUE}) {
+    for (int minute : new int[] {-1, 10080, MIN, MAX}) {
       raises("minute " + minute, ARGUMENT, () -> x.category(0, minute));
       raises("no such employee, minute " + minute, INDEX, () -> x.category(1, minute));
     }
@@ -653,7 +611,7 @@ public final class PromisesTest {
   }
 
   private static void categoriesOfTheWeek() {
-    promise = "25 category";
+    about("25 category");
     Timesheets x = withOne(1000);
     fillDays(x, 0, 4);
     due("the 2400th", x.category(0, at(4, 14, 59)), REGULAR);
@@ -680,7 +638,7 @@ public final class PromisesTest {
   }
 
   private static void fullWeek() {
-    promise = "25 category";
+    about("25 category");
     Timesheets x = withOne(1000);
     for (int day = 0; day < 6; day++) {
       x.enter(0, at(day, 12, 0), at(day, 12, 1));
@@ -704,7 +662,7 @@ public final class PromisesTest {
   }
 
   private static void minutes() {
-    promise = "26 minutes";
+    about("26 minutes");
     Timesheets x = withOne(1000);
     x.enter(0, 0, 1440);
     due("REGULAR", x.minutes(0, 0, REGULAR), 480);
@@ -717,18 +675,18 @@ public final class PromisesTest {
     y.enter(0, at(2, 22, 0), at(3, 2, 0));
     due("before midnight", y.minutes(0, 2, REGULAR), 120);
     due("after midnight", y.minutes(0, 3, REGULAR), 120);
-    for (int day : new int[] {-1, 7, Integer.MIN_VALUE, Integer.MAX_VALUE}) {
+    for (int day : new int[] {-1, 7, MIN, MAX}) {
       raises("day " + day, ARGUMENT, () -> x.minutes(0, day, REGULAR));
       raises("no such employee, day " + day, INDEX, () -> x.minutes(1, day, REGULAR));
     }
-    for (int category : new int[] {NONE, 3, Integer.MIN_VALUE, Integer.MAX_VALUE}) {
+    for (int category : new int[] {NONE, 3, MIN, MAX}) {
       raises("category " + category, ARGUMENT, () -> x.minutes(0, 0, category));
       raises("no such employee, category " + category, INDEX, () -> x.minutes(-1, 0, category));
     }
   }
 
   private static void quarters() {
-    promise = "27 quarters";
+    about("27 quarters");
     Timesheets x = withOne(1000);
     x.enter(0, at(0, 0, 0), at(0, 0, 7));
     due("7 minutes", x.quarters(0, 0, REGULAR), 0);
@@ -749,18 +707,18 @@ public final class PromisesTest {
     due("the categories are rounded apart: REGULAR", x.quarters(0, 6, REGULAR), 32);
     due("OVERTIME", x.quarters(0, 6, OVERTIME), 16);
     due("DOUBLE, 680 minutes", x.quarters(0, 6, DOUBLE), 45);
-    for (int day : new int[] {-1, 7, Integer.MIN_VALUE, Integer.MAX_VALUE}) {
+    for (int day : new int[] {-1, 7, MIN, MAX}) {
       raises("day " + day, ARGUMENT, () -> x.quarters(0, day, REGULAR));
       raises("no such employee, day " + day, INDEX, () -> x.quarters(1, day, REGULAR));
     }
-    for (int category : new int[] {NONE, 3, Integer.MIN_VALUE, Integer.MAX_VALUE}) {
+    for (int category : new int[] {NONE, 3, MIN, MAX}) {
       raises("category " + category, ARGUMENT, () -> x.quarters(0, 0, category));
       raises("no such employee, category " + category, INDEX, () -> x.quarters(-1, 0, category));
     }
   }
 
   private static void sevenLeftQuarters() {
-    promise = "27 quarters";
+    about("27 quarters");
     Timesheets x = withOne(1000);
     for (int day = 0; day < 7; day++) {
       x.enter(0, day * 1440, day * 1440 + 14);
@@ -784,7 +742,7 @@ public final class PromisesTest {
   }
 
   private static void premiumSpans() {
-    promise = "28 premiumPay";
+    about("28 premiumPay");
     due("inside", premiumPayOf(1, 100, 200, 0, 100, 200), 100);
     due("the edges of the span", premiumPayOf(1, 100, 200, 0, 99, 201), 100);
     due("another day", premiumPayOf(1, 100, 200, 1, 100, 200), 0);
@@ -802,7 +760,7 @@ public final class PromisesTest {
   }
 
   private static void premiumPay() {
-    promise = "28 premiumPay";
+    about("28 premiumPay");
     Timesheets x = withOne(1);
     x.enter(0, 0, 400);
     x.addPremium(127, 0, 0, 60);
@@ -837,7 +795,7 @@ public final class PromisesTest {
   }
 
   private static void pay() {
-    promise = "29 pay";
+    about("29 pay");
     Timesheets x = withOne(1000);
     due("an empty week", x.pay(0), 0);
     x.enter(0, 0, 60);
@@ -903,9 +861,6 @@ public final class PromisesTest {
     premiumSpans();
     premiumPay();
     pay();
-    System.out.println(wrong == 0 ? "all answers are as due" : wrong + " answers are not as due");
-    if (wrong != 0) {
-      System.exit(1);
-    }
+    finish();
   }
 }
