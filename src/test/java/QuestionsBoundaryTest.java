@@ -87,6 +87,18 @@ public final class QuestionsBoundaryTest extends Checks {
     }
   }
 
+  /** "An object is used for at most 512 calls after it has been made" */
+  private static void the512thCall() {
+    about("What it is, the 512th call");
+    Timesheets x = withOne(1000);
+    for (int weeks = 0; weeks < 255; weeks++) {
+      x.enter(0, 0, 60);
+      x.closeWeek(0);
+    }
+    // One employee and 255 weeks were 511 calls.
+    due("earned", x.earned(0), 255000);
+  }
+
   // Promises 16 to 19: shifts.
 
   /** "Returns 0 to 40."; "if there is no such employee" */
@@ -492,6 +504,7 @@ public final class QuestionsBoundaryTest extends Checks {
     closedWeeks();
     earned();
     earnedPastAnInt();
+    the512thCall();
     numberOfShifts();
     numberOfAShift("Promise 17", Timesheets::shiftBegin);
     numberOfAShift("Promise 18", Timesheets::shiftEnd);

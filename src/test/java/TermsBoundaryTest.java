@@ -165,6 +165,10 @@ public final class TermsBoundaryTest extends Checks {
       howMany(x, 2, 1);
       shift(x, 0, 900, 1000);
       shift(x, 1, Math.max(1000, 1000 + gap - 480), 1000 + gap);
+      Timesheets y = withPunches(-1000, -(1000 + gap));
+      howMany(y, 2, 2);
+      shift(y, 0, 520, 1000);
+      shift(y, 1, Math.max(1000, 1000 + gap - 480), 1000 + gap);
     }
   }
 
@@ -399,6 +403,13 @@ public final class TermsBoundaryTest extends Checks {
     due("w 2400, d 1", x.category(0, minuteOf(5, 1)), OVERTIME);
     x.enterBreak(0, 0, 1);
     due("w 2399, d 1", x.category(0, minuteOf(5, 1)), REGULAR);
+    Timesheets y = withOne(1000);
+    for (int day = 0; day < 3; day++) {
+      workOn(y, day, 700);
+    }
+    workOn(y, 3, 301);
+    due("w 2399, d 299, after a pause", y.category(0, minuteOf(3, 299)), REGULAR);
+    due("w 2400, d 300, after a pause", y.category(0, minuteOf(3, 300)), OVERTIME);
   }
 
   /** "and w the number of paid minutes of the week that lie before it": those of every category. */
@@ -743,15 +754,16 @@ public final class TermsBoundaryTest extends Checks {
   private static void basicPayAddedUpExactly() {
     about("Terms, the basic pay is added up exactly and then rounded");
     Timesheets x = withOne(1);
-    x.enter(0, 0, 10);
-    for (int day = 1; day < 6; day++) {
+    for (int day = 0; day < 6; day++) {
       x.enter(0, day * DAY, day * DAY + 1);
     }
-    due("a quarter REGULAR: 2 eighths", x.pay(0), 0);
+    due("6 minutes REGULAR are no quarter", x.pay(0), 0);
     x.enter(0, 6 * DAY, 6 * DAY + 15);
-    due("and a quarter OVERTIME: 5 eighths", x.pay(0), 1);
-    x.enterBreak(0, 0, 10);
-    due("5 minutes of five days: 2 eighths for day 6", x.pay(0), 0);
+    due("a quarter OVERTIME: 3 eighths", x.pay(0), 0);
+    x.enter(0, 0, 3);
+    due("8 minutes REGULAR: 2 eighths more, which alone are less than half a cent too", x.pay(0), 1);
+    x.removeEntry(0, 6);
+    due("2 eighths alone", x.pay(0), 0);
   }
 
   /** "divided by 60, rounded to whole cents. In both cases half a cent is rounded up." */
