@@ -312,6 +312,34 @@ public final class QuestionsBoundaryTest extends Checks {
     }
   }
 
+  /** "20 entries", "20 breaks", "40 punches": at all three limits, with an automatic break wherever there is room. */
+  private static void mostPaidSpans() {
+    about("Promises 23 to 28, a week at all its limits");
+    Timesheets x = withOne(1000);
+    x.addPremium(127, 0, 0, 60);
+    for (int i = 0; i < 20; i++) {
+      int begin = 504 * i;
+      x.punch(0, begin, true);
+      x.enterBreak(0, begin + 1, begin + 2);
+      x.enter(0, begin + 482, begin + 484);
+      if (i % 2 == 0) {
+        x.punch(0, begin + 486, true);
+        x.punch(0, begin + 488, false);
+      }
+    }
+    due("shifts", x.shifts(0), 30);
+    due("stretches", x.stretches(0), 70);
+    due("the last minute before an automatic break", x.category(0, 504 * 19 + 361), DOUBLE);
+    due("an automatic break", x.category(0, 504 * 19 + 362), NONE);
+    due("the last paid minute", x.category(0, 504 * 19 + 483), DOUBLE);
+    int paid = 0;
+    for (int day = 0; day < 7; day++) {
+      paid += x.minutes(0, day, REGULAR) + x.minutes(0, day, OVERTIME) + x.minutes(0, day, DOUBLE);
+    }
+    due("paid minutes", paid, 20 * (1 + 448 + 2) + 10 * 2);
+    due("premiumPay", x.premiumPay(0), paid);
+  }
+
   /** "the longest stretch", "those of the automatic break included" */
   private static void longestStretch() {
     about("Promise 24, longestStretch");
@@ -517,6 +545,7 @@ public final class QuestionsBoundaryTest extends Checks {
     workedMinutes();
     dayOfWorkedOn();
     numberOfStretches();
+    mostPaidSpans();
     longestStretch();
     longestOfNone();
     minuteOfTheWeek("Promise 25", Timesheets::category);
