@@ -464,19 +464,24 @@ public final class TermsBoundaryTest extends Checks {
     due("full again", x.category(0, WEEK - 1), OVERTIME);
   }
 
-  /** "at least one paid minute": a worked minute of an automatic break is none. */
+  /** "each of the days 0 to 5 has at least one paid minute": a worked minute of an automatic break is none. */
   private static void fullWeekNeedsPaidMinutes() {
-    about("Terms, the full week needs paid minutes");
-    Timesheets x = withOne(1000);
-    x.enter(0, 5 * DAY - 360, 5 * DAY + 30);
-    for (int day = 0; day < 4; day++) {
-      x.enter(0, day * DAY, day * DAY + 1);
+    // A stretch begins with paid minutes, so day 0 can't be worked without being paid.
+    for (int without = 1; without < 6; without++) {
+      about("Terms, the full week needs paid minutes, day " + without);
+      Timesheets x = withOne(1000);
+      x.enter(0, without * DAY - 360, without * DAY + 30);
+      for (int day = 0; day < 6; day++) {
+        if (day != without) {
+          x.enter(0, day * DAY, day * DAY + 1);
+        }
+      }
+      x.enter(0, 6 * DAY, 6 * DAY + 1);
+      due("it is worked", x.workedOn(0, without), 30);
+      due("but not paid", x.category(0, 6 * DAY), REGULAR);
+      x.enter(0, without * DAY + 30, without * DAY + 31);
+      due("it has one paid minute", x.category(0, 6 * DAY), OVERTIME);
     }
-    x.enter(0, 6 * DAY, 6 * DAY + 1);
-    due("day 5 is worked", x.workedOn(0, 5), 30);
-    due("but not paid", x.category(0, 6 * DAY), REGULAR);
-    x.enter(0, 5 * DAY + 30, 5 * DAY + 31);
-    due("day 5 has one paid minute", x.category(0, 6 * DAY), OVERTIME);
   }
 
   /** "or if the minute belongs to day 6, the week is full, and d is 480 or more" */
